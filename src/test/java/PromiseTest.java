@@ -1,53 +1,13 @@
 /** Every promise of the document by hand: what is ordinary, its edges, and what it refuses. */
-public final class PromiseTest {
-    private static final int NONE = -1, BAD = -2, NOT = -3, FULL = -4;
-    private static final int NULL = -11, INDEX = -12, CAST = -13, STORE = -14, SIZE = -15;
-    private static final int NO_ITEM = Integer.MIN_VALUE;
-    private static final long LONG_BAD = Long.MIN_VALUE + 2;
-    private static final Check CHECK = new Check("PromiseTest");
-
-    private static DairyCollege college(String members, String cows, int... feeds) {
-        DairyCollege x = new DairyCollege();
-        typeAll(x, 0, members);
-        typeAll(x, 1, cows);
-        for (int i = 0; i < feeds.length; i += 3) {
-            due("feed", x.feed(feeds[i], feeds[i + 1], feeds[i + 2]), i / 3 + 1);
-        }
-        return x;
-    }
-
-    private static void typeAll(DairyCollege x, int text, String s) {
-        for (int i = 0; i < s.length(); i++) {
-            due("type", x.type(text, s.charAt(i)), i + 1);
-        }
-    }
-
-    private static void due(String call, long got, long want) {
-        CHECK.due(call, got, want);
-    }
-
-    private static void dueAt(DairyCollege x, int term, int member, int what, int... wants) {
-        for (int q = 0; q < 4; q++) {
-            due("at(" + term + ", " + member + ", " + q + ", " + what + ")", x.at(term, member, q, what), wants[q]);
-        }
-    }
-
-    private static void dueAble(DairyCollege x, int term, int member, int... wants) {
-        for (int what = 0; what < 3; what++) {
-            due("able(" + term + ", " + member + ", " + what + ")", x.able(term, member, what), wants[what]);
-        }
-    }
-
-    private static void dueHouse(DairyCollege x, int term, int question, int... wants) {
-        for (int what = 0; what < 3; what++) {
-            due("house(" + term + ", " + question + ", " + what + ")", x.house(term, question, what), wants[what]);
-        }
+public final class PromiseTest extends Bench {
+    private PromiseTest() {
+        super(new Check("PromiseTest"));
     }
 
     // ---- members, cows, feeds
 
-    private static void newObject() {
-        CHECK.promise("1 a new object");
+    private void newObject() {
+        check.promise("1 a new object");
         DairyCollege x = new DairyCollege();
         for (int what = 0; what <= 8; what++) {
             due("count(" + what + ")", x.count(what), 0);
@@ -61,8 +21,8 @@ public final class PromiseTest {
         due("FULL", DairyCollege.FULL, -4);
     }
 
-    private static void type() {
-        CHECK.promise("2 type");
+    private void type() {
+        check.promise("2 type");
         for (int text = 0; text < 2; text++) {
             DairyCollege x = new DairyCollege();
             due("type", x.type(text, 0), 1);
@@ -81,8 +41,8 @@ public final class PromiseTest {
         }
     }
 
-    private static void wipe() {
-        CHECK.promise("3 wipe");
+    private void wipe() {
+        check.promise("3 wipe");
         DairyCollege x = college("p1234;t", "w1234");
         due("wipe(2)", x.wipe(2), BAD);
         due("wipe(-1)", x.wipe(-1), BAD);
@@ -94,8 +54,8 @@ public final class PromiseTest {
         due("count(1)", x.count(1), 0);
     }
 
-    private static void undo() {
-        CHECK.promise("4 undo");
+    private void undo() {
+        check.promise("4 undo");
         DairyCollege x = college("p1234;", "w");
         due("fault(0)", x.fault(0), 6);
         due("undo(0)", x.undo(0), 5);
@@ -109,15 +69,15 @@ public final class PromiseTest {
         due("undo(-1)", x.undo(-1), BAD);
     }
 
-    private static void dueFault(int text, String s, int want) {
+    private void dueFault(int text, String s, int want) {
         DairyCollege x = new DairyCollege();
         typeAll(x, text, s);
         due("fault of '" + s + "'", x.fault(text), want);
         due("things of '" + s + "'", x.count(text), want == NONE ? (s.length() + 1) / 6 : 0);
     }
 
-    private static void fault() {
-        CHECK.promise("5 fault");
+    private void fault() {
+        check.promise("5 fault");
         for (int text = 0; text < 2; text++) {
             String a = text == 0 ? "p" : "w";
             String b = text == 0 ? "i" : "r";
@@ -146,8 +106,8 @@ public final class PromiseTest {
         due("fault(-1)", x.fault(-1), BAD);
     }
 
-    private static void member() {
-        CHECK.promise("6 member");
+    private void member() {
+        check.promise("6 member");
         DairyCollege x = college("p0123;t9876;i5059", "");
         int[][] wants = {{0, 0, 1, 2, 3}, {1, 9, 8, 7, 6}, {2, 5, 0, 5, 9}};
         for (int m = 0; m < 3; m++) {
@@ -164,8 +124,8 @@ public final class PromiseTest {
         due("at with a fault", x.at(0, 0, 0, 0), BAD);
     }
 
-    private static void cow() {
-        CHECK.promise("7 cow");
+    private void cow() {
+        check.promise("7 cow");
         DairyCollege x = college("", "w0123;r9876");
         int[][] wants = {{1, 0, 1, 2, 3}, {0, 9, 8, 7, 6}};
         for (int c = 0; c < 2; c++) {
@@ -179,8 +139,8 @@ public final class PromiseTest {
         due("cow(0, -1)", x.cow(0, -1), BAD);
     }
 
-    private static void feed() {
-        CHECK.promise("8 feed");
+    private void feed() {
+        check.promise("8 feed");
         DairyCollege x = new DairyCollege();
         due("feed(20, 0, 0)", x.feed(20, 0, 0), BAD);
         due("feed(-1, 0, 0)", x.feed(-1, 0, 0), BAD);
@@ -197,8 +157,8 @@ public final class PromiseTest {
         due("count(4)", x.count(4), 8);
     }
 
-    private static void back() {
-        CHECK.promise("9 back");
+    private void back() {
+        check.promise("9 back");
         DairyCollege x = college("p5555", "r6666;r7777", 9, 0, 0, 3, 0, 1, 3, 0, 1);
         dueAt(x, 3, 0, 0, 7, 7, 7, 7);
         due("back", x.back(), 2);
@@ -211,8 +171,8 @@ public final class PromiseTest {
         dueAt(x, 19, 0, 0, 5, 5, 5, 5);
     }
 
-    private static void read() {
-        CHECK.promise("10 read");
+    private void read() {
+        check.promise("10 read");
         DairyCollege x = college("p5555", "r6666");
         due("read(4)", x.read(4), BAD);
         due("read(-1)", x.read(-1), BAD);
@@ -242,13 +202,13 @@ public final class PromiseTest {
     // ---- terms
 
     /** Feeds in another order than their terms; two in one term; of a member and a cow that are not there. */
-    private static DairyCollege fed() {
+    private DairyCollege fed() {
         return college("p5050;t0505;i4444", "r8888;w9191",
             5, 0, 1, 3, 0, 0, 3, 0, 1, 4, 1, 1, 4, 2, 0, 6, 2, 1, 0, 3, 0, 0, 0, 2);
     }
 
-    private static void at() {
-        CHECK.promise("11 at");
+    private void at() {
+        check.promise("11 at");
         DairyCollege x = fed();
         dueAt(x, 2, 0, 0, 5, 0, 5, 0);
         dueAt(x, 2, 0, 1, 5, 0, 5, 0);
@@ -272,15 +232,15 @@ public final class PromiseTest {
         for (int[] b : bads) {
             due("a bad at", x.at(b[0], b[1], b[2], b[3]), BAD);
         }
-        CHECK.promise("11 at, no farther than it is there");
+        check.promise("11 at, no farther than it is there");
         DairyCollege y = college("t5555", "r6543", 0, 0, 0);
         dueAt(y, 0, 0, 0, 6, 5, 4, 3);
         dueAt(y, 0, 0, 1, 5, 5, 4, 3);
         dueAt(y, 0, 0, 2, 6, 5, 5, 5);
     }
 
-    private static void able() {
-        CHECK.promise("12 able");
+    private void able() {
+        check.promise("12 able");
         DairyCollege x = fed();
         dueAble(x, 2, 0, 3, 0, 1);
         dueAble(x, 3, 0, 4, 2, 1);
@@ -293,11 +253,11 @@ public final class PromiseTest {
         for (int[] b : bads) {
             due("a bad able", x.able(b[0], b[1], b[2]), BAD);
         }
-        CHECK.promise("12 able, at most 9");
+        check.promise("12 able, at most 9");
         DairyCollege y = college("i5555", "r5555", 0, 0, 0, 1, 0, 0, 2, 0, 0, 3, 0, 0, 4, 0, 0, 5, 0, 0);
         due("able", y.able(3, 0, 0), 9);
         due("able", y.able(5, 0, 0), 9);
-        CHECK.promise("12 able, the reach of each sort, raw and warmed");
+        check.promise("12 able, the reach of each sort, raw and warmed");
         String[] sorts = {"p0000", "t0000", "i0000"};
         int[] reaches = {3, 2, 5};
         for (int k = 0; k < 3; k++) {
@@ -309,8 +269,8 @@ public final class PromiseTest {
         }
     }
 
-    private static void house() {
-        CHECK.promise("13 house");
+    private void house() {
+        check.promise("13 house");
         DairyCollege x = college("p5504;p5504;p4504;p4545", "r5555", 2, 2, 0, 3, 3, 0);
         dueHouse(x, 1, 0, 2, 0, 12);
         dueHouse(x, 2, 0, 3, 1, 7);
@@ -327,14 +287,8 @@ public final class PromiseTest {
         dueHouse(new DairyCollege(), 0, 0, 0, 0, 0);
     }
 
-    private static void duePusey(DairyCollege x, int term, int member, int question) {
-        due("pusey(0)", x.pusey(0), term);
-        due("pusey(1)", x.pusey(1), member);
-        due("pusey(2)", x.pusey(2), question);
-    }
-
-    private static void pusey() {
-        CHECK.promise("14 pusey");
+    private void pusey() {
+        check.promise("14 pusey");
         DairyCollege x = college("p0000;i1411", "r1011;r1911", 7, 1, 0);
         duePusey(x, NONE, NONE, NONE);
         x.feed(9, 1, 1);
@@ -352,8 +306,8 @@ public final class PromiseTest {
         duePusey(z, 3, 0, 1);
     }
 
-    private static void weaned() {
-        CHECK.promise("15 weaned");
+    private void weaned() {
+        check.promise("15 weaned");
         DairyCollege x = college("p5555;t5555;i5555;t5555", "r7555", 1, 1, 0, 19, 3, 0, 2, 1, 0);
         due("weaned", x.weaned(), 0);
         x.wipe(1);
@@ -364,8 +318,8 @@ public final class PromiseTest {
         due("count(5)", x.count(5), 2);
     }
 
-    private static void says() {
-        CHECK.promise("16 says");
+    private void says() {
+        check.promise("16 says");
         DairyCollege x = college("p5005;p0505;p5555", "r4444");
         due("says(0)", x.says(0), 1);
         due("says(1)", x.says(1), 0);
@@ -379,13 +333,8 @@ public final class PromiseTest {
         due("says(0), no members", new DairyCollege().says(0), NONE);
     }
 
-    private static void duePower(DairyCollege x, int member, int question, long above, long below) {
-        due("power(" + member + ", " + question + ", 0)", x.power(member, question, 0), above);
-        due("power(" + member + ", " + question + ", 1)", x.power(member, question, 1), below);
-    }
-
-    private static void power() {
-        CHECK.promise("17 power");
+    private void power() {
+        check.promise("17 power");
         DairyCollege x = college("p1000;p1000;p1000", "r2000;r4000");
         duePower(x, 0, 0, 1, 3);
         x.feed(19, 0, 0);
@@ -410,14 +359,8 @@ public final class PromiseTest {
 
     // ---- plans
 
-    private static void dueRear(DairyCollege x, int member, int question, int side, int... wants) {
-        for (int i = -1; i < 2; i++) {
-            due("rear(" + member + ", " + question + ", " + side + ", " + i + ")", x.rear(member, question, side, i), wants[i + 1]);
-        }
-    }
-
-    private static void rear() {
-        CHECK.promise("18 rear");
+    private void rear() {
+        check.promise("18 rear");
         DairyCollege x = college("p0000;p3000", "r4000;r0000;r1000");
         dueRear(x, 0, 0, 0, 0, NONE, NONE);
         dueRear(x, 0, 0, 1, 1, 2, NONE);
@@ -442,14 +385,8 @@ public final class PromiseTest {
         dueRear(college("p5000", ""), 0, 0, 6, NONE, NONE, NONE);
     }
 
-    private static void dueCarry(DairyCollege x, int term, int question, int... wants) {
-        for (int what = 0; what < 3; what++) {
-            due("carry(" + term + ", " + question + ", " + what + ")", x.carry(term, question, what), wants[what]);
-        }
-    }
-
-    private static void carry() {
-        CHECK.promise("19 carry");
+    private void carry() {
+        check.promise("19 carry");
         DairyCollege x = college("i4000;p4000;p4000", "r4000;r5000;r6000");
         dueCarry(x, 0, 0, 1, 1, 1);
         dueCarry(x, 0, 1, 0, 0, 0);
@@ -460,16 +397,16 @@ public final class PromiseTest {
         }
         dueCarry(x, 19, 0, 2, 1, 2);
         due("count(4)", x.count(4), 8);
-        CHECK.promise("19 carry, behind all others of the term, ahead of those of later ones");
+        check.promise("19 carry, behind all others of the term, ahead of those of later ones");
         DairyCollege y = college("p4000", "r5000;r3000", 3, 0, 1);
         dueCarry(y, 2, 0, 0, 0, 0);
         dueCarry(y, 3, 0, 0, 0, 0);
         DairyCollege z = college("t4000", "r5000;r3000", 3, 0, 1);
         dueCarry(z, 2, 0, 0, 0, 0);
         dueCarry(z, 3, 0, 0, 0, 1);
-        CHECK.promise("19 carry, even if it is worse");
+        check.promise("19 carry, even if it is worse");
         dueCarry(college("p5000", "w4000"), 0, 0, 0, 0, 0);
-        CHECK.promise("19 carry, none to feed, none to be fed of");
+        check.promise("19 carry, none to feed, none to be fed of");
         dueCarry(college("p5000", ""), 0, 0, NONE, NONE, NONE);
         dueCarry(college("", "w4000"), 0, 0, NONE, NONE, NONE);
         int[][] bads = {{20, 0, 0}, {-1, 0, 0}, {0, 4, 0}, {0, -1, 0}, {0, 0, 3}, {0, 0, -1}};
@@ -478,14 +415,8 @@ public final class PromiseTest {
         }
     }
 
-    private static void dueSpare(DairyCollege x, int... wants) {
-        for (int i = -1; i < 2; i++) {
-            due("spare(" + i + ")", x.spare(i), wants[i + 1]);
-        }
-    }
-
-    private static void spare() {
-        CHECK.promise("20 spare");
+    private void spare() {
+        check.promise("20 spare");
         DairyCollege x = college("t0000;t0000;t0000", "w4000", 0, 7, 0, 0, 0, 0);
         dueSpare(x, 0, NONE, NONE);
         x.feed(0, 0, 0);
@@ -503,8 +434,8 @@ public final class PromiseTest {
 
     // ---- seen, cream, years
 
-    private static void seen() {
-        CHECK.promise("21 seen");
+    private void seen() {
+        check.promise("21 seen");
         DairyCollege x = new DairyCollege();
         int[][] bads = {{20, 0, 0, 0}, {-1, 0, 0, 0}, {0, 8, 0, 0}, {0, -1, 0, 0}, {0, 0, 4, 0}, {0, 0, -1, 0}, {0, 0, 0, 10}, {0, 0, 0, -1}};
         for (int[] b : bads) {
@@ -516,14 +447,14 @@ public final class PromiseTest {
         due("seen, the ninth", x.seen(0, 0, 0, 0), FULL);
         due("seen, a bad ninth", x.seen(0, 0, 0, 10), BAD);
         due("count(7)", x.count(7), 8);
-        CHECK.promise("22 forget");
+        check.promise("22 forget");
         due("forget", x.forget(), 8);
         due("forget", x.forget(), 0);
         due("count(7)", x.count(7), 0);
     }
 
-    private static void never() {
-        CHECK.promise("23 never");
+    private void never() {
+        check.promise("23 never");
         DairyCollege x = college("p5555;p5555", "r6666", 2, 0, 0, 4, 0, 0, 3, 1, 0);
         due("never, none seen", x.never(), 7);
         x.seen(3, 0, 0, 5);
@@ -541,8 +472,8 @@ public final class PromiseTest {
         due("never, no feeds", new DairyCollege().never(), 0);
     }
 
-    private static void sort() {
-        CHECK.promise("24 sort");
+    private void sort() {
+        check.promise("24 sort");
         DairyCollege x = college("p5555;t5555", "r8555", 2, 0, 0, 2, 1, 0);
         due("sort(0)", x.sort(0), 7);
         x.seen(2, 0, 0, 6);
@@ -559,8 +490,8 @@ public final class PromiseTest {
         due("sort(-1)", x.sort(-1), BAD);
     }
 
-    private static void first() {
-        CHECK.promise("25 first");
+    private void first() {
+        check.promise("25 first");
         DairyCollege x = college("t5555;p5555", "r5555", 2, 0, 0);
         due("first(0, 0)", x.first(0, 0), 1023);
         x.seen(2, 0, 0, 5);
@@ -580,8 +511,8 @@ public final class PromiseTest {
      * The third question, at first 0 to 9: by the feeds of term 0 those of 3 on all hold 5, seven alike;
      * those of 5 on have by then the stomach for 9 in term 3 and go to 7, those of 3 and 4 have not: five alike.
      */
-    private static void ask() {
-        CHECK.promise("26 ask");
+    private void ask() {
+        check.promise("26 ask");
         DairyCollege x = college("t1377", "r1376;r3895;r2156", 0, 0, 0, 3, 0, 1, 0, 0, 2);
         due("ask(0, 2)", x.ask(0, 2), 3);
         x.seen(0, 0, 2, 2);
@@ -600,14 +531,8 @@ public final class PromiseTest {
         due("ask(0, -1)", x.ask(0, -1), BAD);
     }
 
-    private static void dueCream(DairyCollege x, int c, int term, int question, long above, long below) {
-        String call = "cream(" + c + ", " + term + ", " + question + ", ";
-        due(call + "0)", x.cream(c, term, question, 0), above);
-        due(call + "1)", x.cream(c, term, question, 1), below);
-    }
-
-    private static void cream() {
-        CHECK.promise("27 cream");
+    private void cream() {
+        check.promise("27 cream");
         DairyCollege x = college("p4000", "r5000", 3, 0, 0);
         dueCream(x, 5, 3, 0, 5, 16);
         dueCream(x, 8, 19, 0, 1, 2);
@@ -630,8 +555,8 @@ public final class PromiseTest {
         }
     }
 
-    private static void years() {
-        CHECK.promise("28 years");
+    private void years() {
+        check.promise("28 years");
         DairyCollege x = college("p0000", "r9999", 0, 0, 0);
         due("years(1, 0, 1)", x.years(1, 0, 1), 0);
         due("years(1, 8, 1)", x.years(1, 8, 1), 32);
@@ -646,7 +571,7 @@ public final class PromiseTest {
         due("count(4)", y.count(4), 0);
         due("years, no cows", college("p0000", "").years(1, 8, 1), 0);
         due("years, no members", college("", "r9999").years(1, 8, 1), 0);
-        CHECK.promise("28 years, lots by a seed below 0");
+        check.promise("28 years, lots by a seed below 0");
         Oracle oracle = new Oracle();
         String members = "p0918;t2736;i4554";
         String cows = "w9090;r1234;r4321";
@@ -661,8 +586,8 @@ public final class PromiseTest {
 
     // ---- sheets
 
-    private static void sheet() {
-        CHECK.promise("29 sheet");
+    private void sheet() {
+        check.promise("29 sheet");
         DairyCollege x = new DairyCollege();
         due("sheet(0, 0, 60)", x.sheet(0, 0, 60), 60);
         due("sheet(3, 2, 0)", x.sheet(3, 2, 0), 0);
@@ -687,8 +612,8 @@ public final class PromiseTest {
         due("a new one is 0", x.get(0, 1, 3), 0);
     }
 
-    private static void lose() {
-        CHECK.promise("30 lose");
+    private void lose() {
+        check.promise("30 lose");
         DairyCollege x = new DairyCollege();
         x.sheet(2, 1, 17);
         due("lose(4)", x.lose(4), BAD);
@@ -701,8 +626,8 @@ public final class PromiseTest {
         due("lose(2), no items", x.lose(2), 0);
     }
 
-    private static void putAndGet() {
-        CHECK.promise("31 put, 32 get");
+    private void putAndGet() {
+        check.promise("31 put, 32 get");
         DairyCollege x = new DairyCollege();
         int[] values = {0, -1, 127, 128, 255, 256, -129, 32767, 32768, 65536, Integer.MAX_VALUE, Integer.MIN_VALUE + 1};
         for (int form = 0; form < 3; form++) {
@@ -735,14 +660,8 @@ public final class PromiseTest {
         due("get(-1)", x.get(0, 0, -1), NO_ITEM);
     }
 
-    private static void dueItems(DairyCollege x, int s, int form, int... wants) {
-        for (int i = 0; i < wants.length; i++) {
-            due("get(" + s + ", " + form + ", " + i + ")", x.get(s, form, i), wants[i]);
-        }
-    }
-
-    private static void copy() {
-        CHECK.promise("33 copy");
+    private void copy() {
+        check.promise("33 copy");
         DairyCollege x = new DairyCollege();
         x.sheet(0, 2, 5);
         x.sheet(1, 2, 3);
@@ -774,8 +693,8 @@ public final class PromiseTest {
         dueItems(x, 1, 2, 12, 13, 14);
     }
 
-    private static void write() {
-        CHECK.promise("34 write");
+    private void write() {
+        check.promise("34 write");
         DairyCollege x = fed();
         x.sheet(0, 0, 4);
         x.sheet(1, 2, 22);
@@ -803,8 +722,8 @@ public final class PromiseTest {
         due("write to no items", x.write(0, 0, 2), 0);
     }
 
-    private static void count() {
-        CHECK.promise("35 count");
+    private void count() {
+        check.promise("35 count");
         DairyCollege x = fed();
         x.seen(0, 0, 0, 0);
         x.lose(0);
@@ -818,8 +737,8 @@ public final class PromiseTest {
         due("count(8) stays", x.count(8), 1);
     }
 
-    private static void digest() {
-        CHECK.promise("36 digest");
+    private void digest() {
+        check.promise("36 digest");
         int[] question = {0, 0, 0, 0, 0, 0, -1, -1, -1, -1, 0, 1};
         long h = 17;
         for (int i = 0; i < 8; i++) {
@@ -854,7 +773,7 @@ public final class PromiseTest {
         due("digest, with one seen", y.digest(), oracle.digest());
     }
 
-    public static void main(String[] args) {
+    private void run() {
         newObject();
         type();
         wipe();
@@ -889,6 +808,10 @@ public final class PromiseTest {
         write();
         count();
         digest();
-        CHECK.end();
+        check.end();
+    }
+
+    public static void main(String[] args) {
+        new PromiseTest().run();
     }
 }
