@@ -286,6 +286,8 @@ final class SeenEdges extends Edges {
         high.seen(0, 0, 0, 8);
         due("those of 8 and 9", high.first(0, 0), 3 << 8);
         due("those of 8 and 9", high.ask(0, 0), 1);
+        // All ten hold 5 behind term 0; in term 1 nine go to 3, and the one of 9, once sick, cannot.
+        due("all ten alike, then nine", college("t5000", "w4000;w5000;r0000", 0, 0, 0, 0, 0, 1, 0, 0, 1, 1, 0, 2).ask(0, 0), 1);
         DairyCollege y = college("t1377;p0000", "r1376;r3895;r2156", 5, 1, 2, 0, 0, 0, 3, 0, 1, 0, 0, 2);
         y.seen(5, 1, 0, 1);
         due("what was seen of another that was fed", y.ask(0, 2), 3);
