@@ -93,6 +93,31 @@ public final class LanguageTest {
         }
     }
 
+    /** The open lines of the source are the document's face, word for word, under the headings that it tells. */
+    private static void faceAsTold() throws IOException {
+        CHECK.promise("The public face");
+        String document = Files.readString(Path.of("../shared/DOC.md"));
+        String face = document.substring(document.indexOf("```java\n") + 8);
+        StringBuilder due = new StringBuilder();
+        for (String line : face.substring(0, face.indexOf("\n}")).split("\n")) {
+            Matcher m = Pattern.compile("(?:int|long) (\\w+)\\(").matcher(line);
+            String heading = m.find() ? heading(document, m.group(1)) : "";
+            due.append(heading).append(line.strip().replaceAll("\\);$", ") {")).append('\n');
+        }
+        StringBuilder got = new StringBuilder();
+        for (String line : Files.readAllLines(Path.of("src/main/java/DairyCollege.java"))) {
+            boolean own = line.equals("    // ---- what the calls above are made of");
+            if (line.matches(" *(public|// ----) .*") && !own) got.append(line.strip()).append('\n');
+        }
+        CHECK.holds("the open lines are\n" + due + "and not\n" + got, got.toString().equals(due.toString()));
+    }
+
+    /** The heading that the document tells ahead of a call that is the first of its part; else nothing. */
+    private static String heading(String document, String call) {
+        Matcher m = Pattern.compile("Ahead of the calls `" + call + "`[^\n]* the interface says: (.*)\\.").matcher(document);
+        return m.find() ? "// " + m.group(1) + "\n" : "";
+    }
+
     private static List<Class<?>> allClasses() {
         List<Class<?>> all = new ArrayList<>();
         all.add(DairyCollege.class);
@@ -214,6 +239,7 @@ public final class LanguageTest {
 
     public static void main(String[] args) throws IOException, IllegalAccessException {
         face();
+        faceAsTold();
         sizes();
         source();
         wildCalls();
